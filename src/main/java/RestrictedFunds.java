@@ -223,7 +223,7 @@ public final class RestrictedFunds {
         if (!isSuitedBySomeFund(asked)) {
             return TOO_LATE;
         }
-        if (isPayableFromFreeMoney(asked) || isPayableFromCommitment(asked)) {
+        if (isPayableFromSomePot(asked)) {
             return CHARGEABLE;
         }
         return isHeldInCommitment(asked) ? HELD : SPENT;
@@ -416,20 +416,11 @@ public final class RestrictedFunds {
         return false;
     }
 
-    private boolean isPayableFromFreeMoney(Cost cost) {
-        for (int k = 0; k < funds.size(); k++) {
-            Fund fund = funds.get(k);
-            if (fund.money > 0 && fund.mayPay(cost)) {
-                return true;
-            }
-        }
-        return false;
-    }
-
-    private boolean isPayableFromCommitment(Cost cost) {
-        for (int k = 0; k < commitments.size(); k++) {
-            Commitment commitment = commitments.get(k);
-            if (commitment.money > 0 && commitment.mayPay(cost)) {
+    private boolean isPayableFromSomePot(Cost cost) {
+        lineUpPots();
+        for (int k = 0; k < pots.size(); k++) {
+            Pot pot = pots.get(k);
+            if (pot.money > 0 && pot.mayPay(cost)) {
                 return true;
             }
         }
@@ -675,7 +666,7 @@ public final class RestrictedFunds {
             if (leftOfCost(cost) <= 0) {
                 return false;
             }
-            int last = findChain(potsWithMoney(), potsThatReach(cost), 0);
+            int last = findChain(potsWithMoney(), potsWith(reach, cost), 0);
             if (last == NONE) {
                 return false;
             }
@@ -705,7 +696,7 @@ public final class RestrictedFunds {
 
         /** Keeps all amounts of earlier costs, and those that earlier pots pay for this one. */
         private boolean payMoreFrom(int pot, int cost) {
-            int last = findChain(potsAfter(pot) & potsThatPay(cost), 1 << pot, cost + 1);
+            int last = findChain(potsAfter(pot) & potsWith(paying, cost), 1 << pot, cost + 1);
             if (last == NONE) {
                 return false;
             }
@@ -840,20 +831,11 @@ public final class RestrictedFunds {
             return set;
         }
 
-        private int potsThatReach(int cost) {
+        /** The pots in whose sets of costs a cost is. */
+        private int potsWith(int[] costSets, int cost) {
             int set = 0;
-            for (int pot = 0; pot < pots; pot++) {
-                if (has(reach[pot], cost)) {
-                    set |= 1 << pot;
-                }
-            }
-            return set;
-        }
-
-        private int potsThatPay(int cost) {
-            int set = 0;
-            for (int pot = 0; pot < pots; pot++) {
-                if (has(paying[pot], cost)) {
+            for (int pot = 0; pot < pots && pot < costSets.length; pot++) {
+                if (has(costSets[pot], cost)) {
                     set |= 1 << pot;
                 }
             }

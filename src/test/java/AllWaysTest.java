@@ -6,7 +6,7 @@ import java.util.List;
  * written down one by one, the one that the document takes is due.
  */
 public final class AllWaysTest {
-    private static final int LEDGERS = 3000;
+    private static final int LEDGERS = 20000;
 
     private final RestrictedFunds ledger = new RestrictedFunds();
     /** Each pot as day, 0 for a commitment or 1, number, fund, category or -1, money. */
@@ -16,10 +16,10 @@ public final class AllWaysTest {
     private final List<int[]> costs = new ArrayList<>();
     private int[][] best;
     private int[] bestRank;
-    private long drawn;
+    private final Draws draws;
 
     private AllWaysTest(int number) {
-        drawn = number * 104729L + 5;
+        draws = new Draws(number * 104729L + 5);
     }
 
     public static void main(String[] args) {
@@ -101,19 +101,19 @@ public final class AllWaysTest {
     /** Two funds with up to two commitments, or three funds with one; two or three costs. */
     private void fill() {
         ledger.advance(2);
-        int fundCount = 2 + below(2);
+        int fundCount = 2 + draws.below(2);
         for (int f = 0; f < fundCount; f++) {
-            int[] fund = {below(4), 1 + below(7), below(4)};
+            int[] fund = {draws.below(4), 1 + draws.below(7), draws.below(4)};
             funds.add(fund);
             ledger.addFund(fund[0], fund[1], fund[2], 0);
         }
         int committed = 0;
         for (int k = 0; k < 6 && committed < 4 - fundCount; k++) {
-            int f = below(fundCount);
-            int category = below(3);
-            int until = 2 + below(3);
+            int f = draws.below(fundCount);
+            int category = draws.below(3);
+            int until = 2 + draws.below(3);
             if ((funds.get(f)[1] >> category & 1) != 0 && funds.get(f)[0] > 0) {
-                int amount = 1 + below(funds.get(f)[0]);
+                int amount = 1 + draws.below(funds.get(f)[0]);
                 ledger.commit(f, category, amount, until);
                 funds.get(f)[0] -= amount;
                 pots.add(new int[] {until, 0, committed++, f, category, amount});
@@ -123,7 +123,7 @@ public final class AllWaysTest {
             pots.add(new int[] {funds.get(f)[2], 1, f, f, -1, funds.get(f)[0]});
         }
         for (int c = 0; c < 3; c++) {
-            int[] cost = {below(3), below(3), 1 + below(3)};
+            int[] cost = {draws.below(3), draws.below(3), 1 + draws.below(3)};
             costs.add(cost);
             ledger.addCost(cost[0], cost[1], cost[2]);
         }
@@ -202,10 +202,5 @@ public final class AllWaysTest {
             }
         }
         return rank;
-    }
-
-    private int below(int bound) {
-        drawn = drawn * 6364136223846793005L + 1442695040888963407L;
-        return (int) ((drawn >>> 33) % bound);
     }
 }

@@ -30,10 +30,17 @@ final class Check {
             Method call = ledger.getClass().getDeclaredMethod(method, types);
             return String.valueOf(call.invoke(ledger, values));
         } catch (InvocationTargetException e) {
-            return "throws." + e.getCause().getClass().getSimpleName();
+            return thrown(e.getCause());
         } catch (ReflectiveOperationException e) {
             throw new IllegalStateException(e);
         }
+    }
+
+    /** What the library or the machine throws in the class is told apart: the class throws by itself alone. */
+    private static String thrown(Throwable exception) {
+        String thrower = exception.getStackTrace()[0].getClassName();
+        boolean own = thrower.startsWith("RestrictedFunds") || thrower.startsWith("SlowLedger");
+        return (own ? "throws." : "is thrown from within: ") + exception.getClass().getSimpleName();
     }
 
     static void same(String what, String got, String due) {

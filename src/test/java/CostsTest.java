@@ -9,9 +9,12 @@ public final class CostsTest {
         potsOfTheSameDay();
         commitmentsThatOutlastTheirFund();
         theFirstCostByTheFirstPot();
+        potsThatDrawThroughOthers();
+        costsThatChangePotsBitByBit();
         emptyCommitmentsEnd();
         daysThatHavePassed();
         chargeOverheadInRounds();
+        chargeOverheadWithRoomOfOne();
         chargeOverheadByOnes();
         chargeOverheadUpToTheRoom();
         chargeOverheadRefuses();
@@ -168,6 +171,43 @@ public final class CostsTest {
         Check.due(10, x, "paidBy", 2, 2);
     }
 
+    /** Promise 8: the third pot reaches the second cost alone, yet pays in the place of the last two pots. */
+    private static void potsThatDrawThroughOthers() {
+        RestrictedFunds x = new RestrictedFunds();
+        x.addFund(2, 4 | 8, 5, 0);
+        x.addFund(2, 2 | 4, 10, 0);
+        x.addFund(2, 2, 20, 0);
+        x.addFund(1, 4, 30, 0);
+        x.addFund(1, 4, 31, 0);
+        x.addCost(2, 0, 2);
+        x.addCost(1, 0, 2);
+        x.addCost(3, 0, 2);
+        Check.due(2, x, "wouldTake", 2);
+        Check.due(0, x, "wouldTake", 3);
+        Check.due(6, x, "charge");
+        Check.due(2, x, "paidBy", 0, 1);
+        Check.due(2, x, "paidBy", 1, 2);
+        Check.due(2, x, "paidBy", 2, 0);
+        Check.due(1, x, "freeOf", 3);
+        Check.due(1, x, "freeOf", 4);
+    }
+
+    /** Promise 8: the cost 0 is paid by the first pot, and the cost 1 by it and the last one. */
+    private static void costsThatChangePotsBitByBit() {
+        RestrictedFunds x = new RestrictedFunds();
+        x.addFund(2, 7, 3, 0);
+        x.addFund(3, 7, 2, 0);
+        x.addFund(2, 1, 4, 0);
+        x.addCost(0, 0, 2);
+        x.addCost(0, 0, 3);
+        x.addCost(1, 0, 4);
+        Check.due(7, x, "charge");
+        Check.due(2, x, "paidBy", 0, 1);
+        Check.due(1, x, "paidBy", 1, 1);
+        Check.due(2, x, "paidBy", 1, 2);
+        Check.due(2, x, "paidBy", 2, 0);
+    }
+
     /** Promise 8: commitments of which nothing is left end, those behind them move up. */
     private static void emptyCommitmentsEnd() {
         RestrictedFunds x = new RestrictedFunds();
@@ -223,6 +263,30 @@ public final class CostsTest {
         Check.due(50, z, "chargeOverhead", 50);
         Check.due(9, z, "overheadOf", 0);
         Check.due(41, z, "overheadOf", 1);
+    }
+
+    /** Promise 9: room of 1 counts as any other. */
+    private static void chargeOverheadWithRoomOfOne() {
+        RestrictedFunds x = new RestrictedFunds();
+        x.addFund(500, 1, 50, 1);
+        x.addFund(500, 2, 50, 100);
+        x.addCost(0, 0, 100);
+        x.addCost(1, 0, 100);
+        x.charge();
+        Check.due(1, x, "roomOf", 0);
+        Check.due(10, x, "chargeOverhead", 10);
+        Check.due(1, x, "overheadOf", 0);
+        Check.due(9, x, "overheadOf", 1);
+        RestrictedFunds y = new RestrictedFunds();
+        y.addFund(500, 1, 50, 1);
+        y.addFund(500, 2, 50, 100);
+        y.addCost(0, 0, 100);
+        y.addCost(1, 0, 100);
+        y.charge();
+        Check.due(1, y, "chargeOverhead", 1);
+        Check.due(1, y, "overheadOf", 0);
+        Check.due(1, y, "chargeOverhead", 1);
+        Check.due(1, y, "overheadOf", 1);
     }
 
     /** Promise 9: 1 for each, in the order of their numbers, as long as any is left. */

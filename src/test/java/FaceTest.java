@@ -56,12 +56,18 @@ public final class FaceTest {
 
     private static void methods() {
         Set<String> open = new TreeSet<>();
+        Set<String> names = new TreeSet<>();
         for (Method method : RestrictedFunds.class.getDeclaredMethods()) {
             if (!Modifier.isPrivate(method.getModifiers())) {
                 open.add(told(method));
+                names.add(method.getName());
                 Check.same(method.getName(), Modifier.toString(method.getModifiers()) + " " + method.getReturnType(),
                         "public int");
             }
+        }
+        for (Method method : RestrictedFunds.class.getDeclaredMethods()) {
+            boolean shared = Modifier.isPrivate(method.getModifiers()) && names.contains(method.getName());
+            Check.same("a private method with a public name, " + method.getName(), String.valueOf(shared), "false");
         }
         Check.same("the methods", open.toString(), new TreeSet<>(Arrays.asList(METHODS)).toString());
     }

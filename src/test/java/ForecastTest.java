@@ -119,6 +119,8 @@ public final class ForecastTest {
         Check.due(RestrictedFunds.HELD, x, "reason", 0);
         x.advance(6);
         Check.due(RestrictedFunds.CHARGEABLE, x, "reason", 0);
+        x.commit(0, 0, 1, 6);
+        Check.due(RestrictedFunds.CHARGEABLE, x, "reason", 0);
     }
 
     /** Promise 27: neither money nor a commitment of a fund that does not suit the cost counts. */

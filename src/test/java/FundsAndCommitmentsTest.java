@@ -214,6 +214,22 @@ public final class FundsAndCommitmentsTest {
         Check.due(105, x, "today");
     }
 
+    private static void daysAfterSomeHavePassed() {
+        RestrictedFunds x = new RestrictedFunds();
+        Check.due(0, x, "advance", 1);
+        Check.due(1, x, "today");
+        x.advance(49);
+        String before = Check.picture(x);
+        Check.argument(x, "advance", 0);
+        Check.argument(x, "advance", -1);
+        Check.argument(x, "advance", -49);
+        Check.argument(x, "advance", 950);
+        Check.argument(x, "advance", Integer.MAX_VALUE);
+        Check.argument(x, "advance", Integer.MIN_VALUE);
+        Check.isStill(before, x);
+        Check.due(0, x, "advance", 949);
+    }
+
     /** Promise 6. */
     private static void advanceRefuses() {
         RestrictedFunds x = new RestrictedFunds();
@@ -236,5 +252,6 @@ public final class FundsAndCommitmentsTest {
         Check.isStill(before, x);
         RestrictedFunds y = new RestrictedFunds();
         Check.due(0, y, "advance", 999);
+        daysAfterSomeHavePassed();
     }
 }

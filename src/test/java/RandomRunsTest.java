@@ -4,16 +4,19 @@ public final class RandomRunsTest {
     private static final int CALLS = 300;
     private static final int RUNS = 1500;
 
-    private long drawn;
+    private final Draws draws;
     private int largest;
     private int latest;
     private int kinds;
+    /** Until this call nothing is charged, so that costs and funds heap up. */
+    private int patience;
 
     private RandomRunsTest(int run) {
-        drawn = run * 7919L + 17;
-        largest = new int[] {3, 12, 60, 5000, 99999}[below(5)];
-        latest = new int[] {2, 8, 40, 999}[below(4)];
-        kinds = new int[] {1, 2, 3, 8}[below(4)];
+        draws = new Draws(run * 7919L + 17);
+        largest = new int[] {3, 12, 60, 5000, 99999}[draws.below(5)];
+        latest = new int[] {2, 8, 40, 999}[draws.below(4)];
+        kinds = new int[] {1, 2, 3, 8}[draws.below(4)];
+        patience = draws.below(3) * 60;
     }
 
     public static void main(String[] args) {
@@ -27,24 +30,24 @@ public final class RandomRunsTest {
         RestrictedFunds real = new RestrictedFunds();
         SlowLedger slow = new SlowLedger();
         for (int call = 0; call < CALLS; call++) {
-            step("run " + run + " call " + call + ": ", real, slow);
+            step("run " + run + " call " + call + ": ", call < patience, real, slow);
         }
         Check.same("run " + run + ": the ledger", Check.picture(real), Check.picture(slow));
     }
 
-    private void step(String where, RestrictedFunds real, SlowLedger slow) {
+    private void step(String where, boolean patient, RestrictedFunds real, SlowLedger slow) {
         int funds = slow.funds();
-        switch (below(30)) {
+        switch (draws.below(30)) {
             case 0, 1, 2 -> both(where, real, slow, "addFund", edged(0, largest), edged(0, (1 << kinds) - 1),
-                    edged(0, latest), new int[] {0, 1, 7, 33, 50, 99, 100, 101, -1}[below(9)]);
+                    edged(0, latest), new int[] {0, 1, 7, 33, 50, 99, 100, 101, -1}[draws.below(9)]);
             case 3, 4 -> both(where, real, slow, "deposit", near(funds), edged(1, largest));
             case 5, 6, 7, 8 -> both(where, real, slow, "commit", near(funds), edged(0, kinds - 1),
-                    edged(1, Math.max(1, largest / 2)), slow.today() + below(latest + 2) - 1);
+                    edged(1, Math.max(1, largest / 2)), slow.today() + draws.below(latest + 2) - 1);
             case 9 -> both(where, real, slow, "cancel", near(slow.commitments()));
-            case 10 -> both(where, real, slow, "advance", below(8) == 0 ? below(1100) - 50 : edged(1, latest / 8 + 1));
+            case 10 -> both(where, real, slow, "advance", draws.below(8) == 0 ? draws.below(1100) - 50 : edged(1, latest / 8 + 1));
             case 11, 12, 13 -> both(where, real, slow, "addCost", edged(0, kinds - 1),
-                    slow.today() - below(latest + 2) + 1, edged(1, largest));
-            case 14 -> both(where, real, slow, "charge");
+                    slow.today() - draws.below(latest + 2) + 1, edged(1, largest));
+            case 14 -> both(where, real, slow, patient ? "payable" : "charge");
             case 15 -> both(where, real, slow, "chargeOverhead", edged(1, largest));
             case 16 -> both(where, real, slow, "payable");
             case 17 -> both(where, real, slow, "wouldPay", near(slow.costs()));
@@ -68,18 +71,13 @@ public final class RandomRunsTest {
                 Check.ask(real, method, numbers), Check.ask(slow, method, numbers));
     }
 
-    private int below(int bound) {
-        drawn = drawn * 6364136223846793005L + 1442695040888963407L;
-        return (int) ((drawn >>> 33) % bound);
-    }
-
     /** Mostly within the bounds, now and then one beside them. */
     private int edged(int least, int most) {
-        return below(40) == 0 ? least - 1 + below(2) * (most - least + 2) : least + below(most - least + 1);
+        return draws.below(40) == 0 ? least - 1 + draws.below(2) * (most - least + 2) : least + draws.below(most - least + 1);
     }
 
     /** Mostly a number that there is, now and then one beside them. */
     private int near(int count) {
-        return below(15) == 0 || count == 0 ? below(2) * (count + 1) - 1 : below(count);
+        return draws.below(15) == 0 || count == 0 ? draws.below(2) * (count + 1) - 1 : draws.below(count);
     }
 }
