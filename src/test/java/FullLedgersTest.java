@@ -41,7 +41,8 @@ public final class FullLedgersTest {
         }
         int tries = draws.below(12);
         for (int k = 0; k < tries; k++) {
-            both("commit", draws.below(funds), draws.below(kinds), 1 + draws.below((large + 1) / 2), days + draws.below(4));
+            both("commit", draws.below(funds), draws.below(kinds), 1 + draws.below((large + 1) / 2),
+                    days + draws.below(4));
         }
         int costs = 3 + draws.below(14);
         for (int k = 0; k < costs; k++) {

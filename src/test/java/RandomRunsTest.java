@@ -44,7 +44,8 @@ public final class RandomRunsTest {
             case 5, 6, 7, 8 -> both(where, real, slow, "commit", near(funds), edged(0, kinds - 1),
                     edged(1, Math.max(1, largest / 2)), slow.today() + draws.below(latest + 2) - 1);
             case 9 -> both(where, real, slow, "cancel", near(slow.commitments()));
-            case 10 -> both(where, real, slow, "advance", draws.below(8) == 0 ? draws.below(1100) - 50 : edged(1, latest / 8 + 1));
+            case 10 -> both(where, real, slow, "advance",
+                    draws.below(8) == 0 ? draws.below(1100) - 50 : edged(1, latest / 8 + 1));
             case 11, 12, 13 -> both(where, real, slow, "addCost", edged(0, kinds - 1),
                     slow.today() - draws.below(latest + 2) + 1, edged(1, largest));
             case 14 -> both(where, real, slow, patient ? "payable" : "charge");
@@ -73,7 +74,10 @@ public final class RandomRunsTest {
 
     /** Mostly within the bounds, now and then one beside them. */
     private int edged(int least, int most) {
-        return draws.below(40) == 0 ? least - 1 + draws.below(2) * (most - least + 2) : least + draws.below(most - least + 1);
+        if (draws.below(40) == 0) {
+            return draws.below(2) == 0 ? least - 1 : most + 1;
+        }
+        return least + draws.below(most - least + 1);
     }
 
     /** Mostly a number that there is, now and then one beside them. */
