@@ -70,6 +70,26 @@ final class Check {
         same(told(method, numbers), ask(ledger, method, numbers), "throws.IllegalStateException");
     }
 
+    /** Refused in a place of a call: the numbers beside the range, and the least and the greatest int. */
+    static void argumentBeside(int least, int most, RestrictedFunds ledger, String method, int place, int... numbers) {
+        for (int wrong : new int[] {least - 1, most + 1, Integer.MIN_VALUE, Integer.MAX_VALUE}) {
+            argument(ledger, method, with(wrong, place, numbers));
+        }
+    }
+
+    /** The same of a number that tells one of so many funds, commitments or costs. */
+    static void boundsBeside(int count, RestrictedFunds ledger, String method, int place, int... numbers) {
+        for (int wrong : new int[] {-1, count, Integer.MIN_VALUE, Integer.MAX_VALUE}) {
+            bounds(ledger, method, with(wrong, place, numbers));
+        }
+    }
+
+    private static int[] with(int number, int place, int... numbers) {
+        int[] changed = numbers.clone();
+        changed[place] = number;
+        return changed;
+    }
+
     /** That nothing has changed since a picture was taken. */
     static void isStill(String before, RestrictedFunds ledger) {
         same("after calls that throw the ledger", picture(ledger), before);
